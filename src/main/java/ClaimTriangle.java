@@ -427,8 +427,7 @@ public final class ClaimTriangle {
             return sum;
         }
 
-        /** The month from which on another estimate stands in the stead of this one; if there is
-         * none, a month behind all periods. */
+        /** The month from which on another estimate stands in its stead; a month too far if none. */
         int replacedIn(int entry) {
             int least = MONTHS;
             for (int other = 0; other < size; other++) {
@@ -566,11 +565,10 @@ public final class ClaimTriangle {
         }
 
         int sumPremiums(int line, int step, int period) {
+            int first = period * step;
             int sum = 0;
-            for (int month = 0; month < MONTHS; month++) {
-                if (month / step == period) {
-                    sum += premiums[line][month];
-                }
+            for (int month = first; month < first + step && month < MONTHS; month++) {
+                sum += premiums[line][month];
             }
             return sum;
         }
@@ -619,7 +617,9 @@ public final class ClaimTriangle {
         }
 
         void toUltimate(int method, int row) {
-            expect(row);
+            if (method == EXPECTED || method == BLEND) {
+                expect(row);
+            }
             if (method == EXPECTED) {
                 answer.copy(expected);
                 return;

@@ -341,6 +341,8 @@ public final class PromiseTest {
         Checks.answers("9: estimates of all origins", 111, () -> x.cell(0, 0));
         Checks.answers("9: the later ones, the last of several", 211, () -> x.cell(0, 1));
         Checks.answers("9: it stays", 211, () -> x.cell(0, 2));
+        x.pay(0, 0, 17, 5);
+        Checks.answers("9: a later payment is none", 216, () -> x.cell(0, 2));
         x.strike(3);
         Checks.answers("9: the one before comes back", 311, () -> x.cell(0, 1));
         x.strike(2);
@@ -355,7 +357,7 @@ public final class PromiseTest {
         x.move(5, 6, 11);
         Checks.answers("9: another origin, another row", 9999, () -> x.cell(1, 0));
         x.build(0, 6, false, 3);
-        Checks.answers("9: paid ones have no estimates", 1, () -> x.cell(0, 2));
+        Checks.answers("9: paid ones have no estimates", 6, () -> x.cell(0, 2));
     }
 
     private static void leave() {
@@ -470,6 +472,10 @@ public final class PromiseTest {
         x.ratio(-1, 5, 3);
         parts("14: with a tail", 640, 1, below -> x.ultimate(ALL, 1, below));
         parts("14: BLEND with a tail", 1015, 2, below -> x.ultimate(BLEND, 1, below));
+        x.pay(0, 0, 30, -360);
+        parts("14: a way under 0", -640, 1, below -> x.ultimate(ALL, 1, below));
+        parts("14: BLEND with a way under 0", 1765, 2, below -> x.ultimate(BLEND, 1, below));
+        x.pay(0, 0, 30, 360);
         x.ratio(-1, 0, 1);
         parts("14: a tail of 0", 0, 1, below -> x.ultimate(ALL, 2, below));
         partsFail("14: BLEND with a way of 0", Checks.UNDEFINED, below -> x.ultimate(BLEND, 0, below));
@@ -725,7 +731,7 @@ public final class PromiseTest {
         partsFail("the first part above over the multiple", Checks.LONG, below -> x.total(ALL, below));
         parts("a sum in lowest terms", 1, 19999L * 10000 * 9999, below -> alike(10000).deviation(0, below));
         partsFail("a multiple, though lowest terms would go", Checks.LONG,
-                below -> alike(100000).deviation(0, below));
+                below -> alike(35000).deviation(0, below));
     }
 
     /** Two rows that fall from c and c - 1 to 1: the parts above stay small in the deviation. */
