@@ -1,10 +1,10 @@
 /** The promises one by one: ordinary inputs, the document's edges, and wrong inputs. */
 public final class PromiseTest {
-    private static final int ALL = 0;
-    private static final int LATEST = 1;
-    private static final int EXPECTED = 2;
-    private static final int BLEND = 3;
-    private static final long LIMIT = 1L << 62;
+    private static final int ALL = Samples.ALL;
+    private static final int LATEST = Samples.LATEST;
+    private static final int EXPECTED = Samples.EXPECTED;
+    private static final int BLEND = Samples.BLEND;
+    private static final long LIMIT = Samples.LIMIT;
 
     public static void main(String[] args) {
         newObject();
@@ -39,78 +39,6 @@ public final class PromiseTest {
         Checks.end();
     }
 
-    /** Rows 100 150 180, 200 320 and 300; factors 47/30 and 6/5. */
-    private static ClaimTriangle years() {
-        ClaimTriangle x = new ClaimTriangle();
-        x.pay(0, 0, 0, 100);
-        x.pay(0, 11, 12, 50);
-        x.pay(0, 0, 35, 30);
-        x.pay(0, 12, 23, 200);
-        x.pay(0, 23, 24, 120);
-        x.pay(0, 24, 24, 300);
-        x.build(0, 12, false, 3);
-        return x;
-    }
-
-    /** The years with premiums whose sums are 1200, 500 and 600, and the ratio 3/4. */
-    private static ClaimTriangle insuredYears() {
-        ClaimTriangle x = years();
-        x.premium(0, 0, 1000);
-        x.premium(0, 11, 200);
-        x.premium(0, 12, 500);
-        x.premium(0, 35, 600);
-        x.premium(0, 36, 7777);
-        x.premium(1, 0, 8888);
-        x.ratio(0, 30, 40);
-        x.ratio(1, 9, 1);
-        return x;
-    }
-
-    private static void payMuch(ClaimTriangle x, int origin, int month, int amount) {
-        int rest = amount;
-        while (rest != 0) {
-            int part = Math.max(-9999, Math.min(9999, rest));
-            x.pay(0, origin, month, part);
-            rest -= part;
-        }
-    }
-
-    /**
-     * A triangle of six months in which factor j is tops[j] / bottoms[j] of row 4 - j alone; row
-     * 5 has the cell newest.
-     */
-    private static ClaimTriangle steep(int[] tops, int[] bottoms, int newest) {
-        ClaimTriangle x = new ClaimTriangle();
-        x.build(0, 1, false, 6);
-        for (int j = 0; j < 5; j++) {
-            int row = 4 - j;
-            payMuch(x, row, row + j, bottoms[j]);
-            payMuch(x, row, row + j + 1, tops[j] - bottoms[j]);
-            if (j > 0) {
-                x.leave(row, j - 1, true);
-            }
-        }
-        payMuch(x, 5, 5, newest);
-        return x;
-    }
-
-    private static final int[] ONES = {1, 1, 1, 1, 1};
-
-    private static void parts(String what, long above, long below, Part part) {
-        Checks.answers(what + ", above", above, () -> part.of(false));
-        Checks.answers(what + ", below", below, () -> part.of(true));
-    }
-
-    private static void partsFail(String what, String due, Part part) {
-        Checks.fails(what + ", above", due, () -> part.of(false));
-        Checks.fails(what + ", below", due, () -> part.of(true));
-    }
-
-    /** One part of a fraction. */
-    private interface Part {
-        long of(boolean below);
-    }
-
     private static void newObject() {
         ClaimTriangle x = new ClaimTriangle();
         Checks.answers("1: no entries", 0, () -> x.count(0));
@@ -120,18 +48,18 @@ public final class PromiseTest {
         Checks.answers("1: nothing is paid", 0, () -> x.count(4));
         Checks.answers("1: the cell", 0, () -> x.cell(0, 0));
         Checks.fails("1: no second cell", Checks.BAD, () -> x.cell(0, 1));
-        parts("1: premiums are 0", 0, 1, below -> x.ultimate(EXPECTED, 0, below));
+        Checks.parts("1: premiums are 0", 0, 1, below -> x.ultimate(EXPECTED, 0, below));
         x.pay(0, 11, 11, 7);
         x.pay(0, 12, 12, 100);
         x.pay(1, 0, 0, 1000);
         x.estimate(0, 0, 0, 500);
         Checks.answers("1: line 0, step 12, paid", 7, () -> x.cell(0, 0));
-        parts("1: the tail is 1", 7, 1, below -> x.ultimate(ALL, 0, below));
+        Checks.parts("1: the tail is 1", 7, 1, below -> x.ultimate(ALL, 0, below));
         x.premium(0, 0, 31);
         x.premium(1, 0, 37);
-        parts("1: the ratio of line 0 is 1", 31, 1, below -> x.ultimate(EXPECTED, 0, below));
+        Checks.parts("1: the ratio of line 0 is 1", 31, 1, below -> x.ultimate(EXPECTED, 0, below));
         x.build(1, 12, false, 1);
-        parts("1: the ratio of line 1 is 1", 37, 1, below -> x.ultimate(EXPECTED, 0, below));
+        Checks.parts("1: the ratio of line 1 is 1", 37, 1, below -> x.ultimate(EXPECTED, 0, below));
         Checks.answers("1: another object is another", 0, () -> new ClaimTriangle().count(0));
         latestIsThreeAtFirst();
     }
@@ -143,7 +71,7 @@ public final class PromiseTest {
             x.pay(0, row, row, 1);
             x.pay(0, row, row + 1, 1 << row);
         }
-        parts("1: r is 3", 3 + 4 + 8 + 16, 3, below -> x.factor(LATEST, 0, below));
+        Checks.parts("1: r is 3", 3 + 4 + 8 + 16, 3, below -> x.factor(LATEST, 0, below));
     }
 
     private static void pay() {
@@ -243,8 +171,8 @@ public final class PromiseTest {
         x.premium(0, 71, 44);
         x.premium(0, 0, 55);
         x.build(0, 12, false, 6);
-        parts("6: the newest premium of an origin counts", 55, 1, below -> x.ultimate(EXPECTED, 0, below));
-        parts("6: the last origin", 44, 1, below -> x.ultimate(EXPECTED, 5, below));
+        Checks.parts("6: the newest premium of an origin counts", 55, 1, below -> x.ultimate(EXPECTED, 0, below));
+        Checks.parts("6: the last origin", 44, 1, below -> x.ultimate(EXPECTED, 5, below));
         Checks.failsDoing("6: line -1", Checks.BAD, () -> x.premium(-1, 0, 1));
         Checks.failsDoing("6: line 2", Checks.BAD, () -> x.premium(2, 0, 1));
         Checks.failsDoing("6: origin -1", Checks.BAD, () -> x.premium(0, -1, 1));
@@ -252,7 +180,7 @@ public final class PromiseTest {
         Checks.failsDoing("6: -1", Checks.BAD, () -> x.premium(0, 0, -1));
         Checks.failsDoing("6: 10000", Checks.BAD, () -> x.premium(0, 0, 10000));
         x.premium(0, 0, 0);
-        parts("6: 0 again", 0, 1, below -> x.ultimate(EXPECTED, 0, below));
+        Checks.parts("6: 0 again", 0, 1, below -> x.ultimate(EXPECTED, 0, below));
     }
 
     private static void ratio() {
@@ -261,15 +189,15 @@ public final class PromiseTest {
         x.premium(0, 0, 10);
         x.premium(1, 0, 10);
         x.ratio(0, 9999, 9998);
-        parts("7: of line 0", 49995, 4999, below -> x.ultimate(EXPECTED, 0, below));
+        Checks.parts("7: of line 0", 49995, 4999, below -> x.ultimate(EXPECTED, 0, below));
         x.ratio(0, 6, 4);
         x.ratio(1, 0, 9999);
         x.ratio(-1, 21, 14);
-        parts("7: the tail", 15, 1, below -> x.ultimate(ALL, 0, below));
-        parts("7: the tail of LATEST", 15, 1, below -> x.ultimate(LATEST, 0, below));
-        parts("7: of line 0 again", 15, 1, below -> x.ultimate(EXPECTED, 0, below));
+        Checks.parts("7: the tail", 15, 1, below -> x.ultimate(ALL, 0, below));
+        Checks.parts("7: the tail of LATEST", 15, 1, below -> x.ultimate(LATEST, 0, below));
+        Checks.parts("7: of line 0 again", 15, 1, below -> x.ultimate(EXPECTED, 0, below));
         x.build(1, 12, false, 1);
-        parts("7: of line 1", 0, 1, below -> x.ultimate(EXPECTED, 0, below));
+        Checks.parts("7: of line 1", 0, 1, below -> x.ultimate(EXPECTED, 0, below));
         Checks.failsDoing("7: line -2", Checks.BAD, () -> x.ratio(-2, 1, 1));
         Checks.failsDoing("7: line 2", Checks.BAD, () -> x.ratio(2, 1, 1));
         Checks.failsDoing("7: -1 above", Checks.BAD, () -> x.ratio(0, -1, 1));
@@ -277,11 +205,11 @@ public final class PromiseTest {
         Checks.failsDoing("7: 0 below", Checks.BAD, () -> x.ratio(0, 1, 0));
         Checks.failsDoing("7: 10000 below", Checks.BAD, () -> x.ratio(-1, 1, 10000));
         x.build(0, 12, false, 1);
-        parts("7: the tail outlives a build", 15, 1, below -> x.ultimate(ALL, 0, below));
+        Checks.parts("7: the tail outlives a build", 15, 1, below -> x.ultimate(ALL, 0, below));
     }
 
     private static void build() {
-        ClaimTriangle x = years();
+        ClaimTriangle x = Samples.years();
         x.leave(0, 0, true);
         x.leave(1, 1, true);
         x.hide(2);
@@ -304,7 +232,7 @@ public final class PromiseTest {
     }
 
     private static void cell() {
-        ClaimTriangle x = years();
+        ClaimTriangle x = Samples.years();
         Checks.answers("9: 0, 0", 100, () -> x.cell(0, 0));
         Checks.answers("9: 0, 1", 150, () -> x.cell(0, 1));
         Checks.answers("9: 0, 2", 180, () -> x.cell(0, 2));
@@ -361,15 +289,15 @@ public final class PromiseTest {
     }
 
     private static void leave() {
-        ClaimTriangle x = years();
+        ClaimTriangle x = Samples.years();
         Checks.answers("10: one", 1, () -> x.leave(0, 0, true));
         Checks.answers("10: the same again", 1, () -> x.leave(0, 0, true));
-        parts("10: of a factor's part below", 8, 5, below -> x.factor(ALL, 0, below));
+        Checks.parts("10: of a factor's part below", 8, 5, below -> x.factor(ALL, 0, below));
         Checks.answers("10: taken in again", 0, () -> x.leave(0, 0, false));
         Checks.answers("10: taken in that was not out", 0, () -> x.leave(0, 0, false));
         Checks.answers("10: another", 1, () -> x.leave(1, 1, true));
-        parts("10: of a factor's part above", 3, 2, below -> x.factor(ALL, 0, below));
-        parts("10: not of the ultimate", 384, 1, below -> x.ultimate(ALL, 1, below));
+        Checks.parts("10: of a factor's part above", 3, 2, below -> x.factor(ALL, 0, below));
+        Checks.parts("10: not of the ultimate", 384, 1, below -> x.ultimate(ALL, 1, below));
         x.hide(1);
         Checks.answers("10: a hidden one counts and can be left out", 2, () -> x.leave(2, 0, true));
         Checks.answers("10: a hidden one can be taken in", 1, () -> x.leave(2, 0, false));
@@ -380,7 +308,7 @@ public final class PromiseTest {
         Checks.fails("10: one that wraps round", Checks.BAD, () -> x.leave(2, Integer.MAX_VALUE, true));
         x.hide(0);
         Checks.answers("10: it outlives hiding", 2, () -> x.leave(0, 2, true));
-        partsFail("10: nothing is left of factor 1", Checks.UNDEFINED, below -> x.factor(ALL, 1, below));
+        Checks.partsFail("10: nothing is left of factor 1", Checks.UNDEFINED, below -> x.factor(ALL, 1, below));
     }
 
     private static void latest() {
@@ -391,32 +319,32 @@ public final class PromiseTest {
             x.pay(0, row, row + 1, 1 << row);
         }
         x.latest(1);
-        parts("11: 1", 17, 1, below -> x.factor(LATEST, 0, below));
-        parts("11: not of ALL", 36, 5, below -> x.factor(ALL, 0, below));
+        Checks.parts("11: 1", 17, 1, below -> x.factor(LATEST, 0, below));
+        Checks.parts("11: not of ALL", 36, 5, below -> x.factor(ALL, 0, below));
         x.latest(6);
-        parts("11: more than there are", 36, 5, below -> x.factor(LATEST, 0, below));
+        Checks.parts("11: more than there are", 36, 5, below -> x.factor(LATEST, 0, below));
         x.latest(2);
-        parts("11: 2", 13, 1, below -> x.factor(LATEST, 0, below));
+        Checks.parts("11: 2", 13, 1, below -> x.factor(LATEST, 0, below));
         x.leave(4, 0, true);
-        parts("11: the greatest of those that are not left out", 7, 1, below -> x.factor(LATEST, 0, below));
+        Checks.parts("11: the greatest of those that are not left out", 7, 1, below -> x.factor(LATEST, 0, below));
         x.leave(2, 1, true);
-        parts("11: nor by the cell above", 6, 1, below -> x.factor(LATEST, 0, below));
+        Checks.parts("11: nor by the cell above", 6, 1, below -> x.factor(LATEST, 0, below));
         Checks.failsDoing("11: 0", Checks.BAD, () -> x.latest(0));
         Checks.failsDoing("11: 7", Checks.BAD, () -> x.latest(7));
         x.build(0, 1, false, 6);
-        parts("11: it outlives a build", 13, 1, below -> x.factor(LATEST, 0, below));
+        Checks.parts("11: it outlives a build", 13, 1, below -> x.factor(LATEST, 0, below));
         x.hide(2);
-        parts("11: the greatest that are not hidden", 4, 1, below -> x.factor(LATEST, 0, below));
+        Checks.parts("11: the greatest that are not hidden", 4, 1, below -> x.factor(LATEST, 0, below));
     }
 
     private static void hide() {
-        ClaimTriangle x = insuredYears();
+        ClaimTriangle x = Samples.insuredYears();
         Checks.answers("12: one", 2, () -> x.hide(1));
-        parts("12: factors", 3, 2, below -> x.factor(ALL, 0, below));
-        parts("12: latest cells", 150, 1, below -> x.ultimate(ALL, 0, below));
-        parts("12: ultimates", 300, 1, below -> x.ultimate(ALL, 1, below));
-        parts("12: totals", 100, 1, below -> x.total(ALL, below));
-        partsFail("12: the last row has none", Checks.BAD, below -> x.ultimate(EXPECTED, 2, below));
+        Checks.parts("12: factors", 3, 2, below -> x.factor(ALL, 0, below));
+        Checks.parts("12: latest cells", 150, 1, below -> x.ultimate(ALL, 0, below));
+        Checks.parts("12: ultimates", 300, 1, below -> x.ultimate(ALL, 1, below));
+        Checks.parts("12: totals", 100, 1, below -> x.total(ALL, below));
+        Checks.partsFail("12: the last row has none", Checks.BAD, below -> x.ultimate(EXPECTED, 2, below));
         Checks.answers("12: two in its stead", 1, () -> x.hide(2));
         Checks.answers("12: one again", 2, () -> x.hide(1));
         Checks.fails("12: all", Checks.BAD, () -> x.hide(3));
@@ -428,22 +356,22 @@ public final class PromiseTest {
     }
 
     private static void factor() {
-        ClaimTriangle x = years();
-        parts("13: 0 of ALL", 47, 30, below -> x.factor(ALL, 0, below));
-        parts("13: 1 of ALL", 6, 5, below -> x.factor(ALL, 1, below));
-        partsFail("13: factor 2", Checks.BAD, below -> x.factor(ALL, 2, below));
-        partsFail("13: factor -1", Checks.BAD, below -> x.factor(ALL, -1, below));
-        partsFail("13: of EXPECTED", Checks.BAD, below -> x.factor(EXPECTED, 0, below));
-        partsFail("13: of BLEND", Checks.BAD, below -> x.factor(BLEND, 0, below));
-        partsFail("13: of -1", Checks.BAD, below -> x.factor(-1, 0, below));
+        ClaimTriangle x = Samples.years();
+        Checks.parts("13: 0 of ALL", 47, 30, below -> x.factor(ALL, 0, below));
+        Checks.parts("13: 1 of ALL", 6, 5, below -> x.factor(ALL, 1, below));
+        Checks.partsFail("13: factor 2", Checks.BAD, below -> x.factor(ALL, 2, below));
+        Checks.partsFail("13: factor -1", Checks.BAD, below -> x.factor(ALL, -1, below));
+        Checks.partsFail("13: of EXPECTED", Checks.BAD, below -> x.factor(EXPECTED, 0, below));
+        Checks.partsFail("13: of BLEND", Checks.BAD, below -> x.factor(BLEND, 0, below));
+        Checks.partsFail("13: of -1", Checks.BAD, below -> x.factor(-1, 0, below));
         x.pay(0, 0, 0, -300);
-        partsFail("13: a sum below of 0", Checks.UNDEFINED, below -> x.factor(ALL, 0, below));
+        Checks.partsFail("13: a sum below of 0", Checks.UNDEFINED, below -> x.factor(ALL, 0, below));
         x.pay(0, 0, 0, -10);
-        parts("13: a sum below under 0", -16, 1, below -> x.factor(ALL, 0, below));
+        Checks.parts("13: a sum below under 0", -16, 1, below -> x.factor(ALL, 0, below));
         x.latest(1);
-        parts("13: 0 of LATEST", 8, 5, below -> x.factor(LATEST, 0, below));
+        Checks.parts("13: 0 of LATEST", 8, 5, below -> x.factor(LATEST, 0, below));
         x.pay(0, 0, 30, 130);
-        parts("13: nothing is 0 / 1", 0, 1, below -> emptied(x).factor(ALL, 1, below));
+        Checks.parts("13: nothing is 0 / 1", 0, 1, below -> emptied(x).factor(ALL, 1, below));
     }
 
     /** Brings cell 0, 2 of the triangle to 0. */
@@ -453,104 +381,96 @@ public final class PromiseTest {
     }
 
     private static void ultimate() {
-        ClaimTriangle x = insuredYears();
-        parts("14: ALL 0", 180, 1, below -> x.ultimate(ALL, 0, below));
-        parts("14: ALL 1", 384, 1, below -> x.ultimate(ALL, 1, below));
-        parts("14: ALL 2", 564, 1, below -> x.ultimate(ALL, 2, below));
+        ClaimTriangle x = Samples.insuredYears();
+        Checks.parts("14: ALL 0", 180, 1, below -> x.ultimate(ALL, 0, below));
+        Checks.parts("14: ALL 1", 384, 1, below -> x.ultimate(ALL, 1, below));
+        Checks.parts("14: ALL 2", 564, 1, below -> x.ultimate(ALL, 2, below));
         x.latest(1);
-        parts("14: LATEST 2", 576, 1, below -> x.ultimate(LATEST, 2, below));
-        parts("14: EXPECTED 0", 900, 1, below -> x.ultimate(EXPECTED, 0, below));
-        parts("14: EXPECTED 1", 375, 1, below -> x.ultimate(EXPECTED, 1, below));
-        parts("14: EXPECTED 2", 450, 1, below -> x.ultimate(EXPECTED, 2, below));
-        parts("14: BLEND 0", 180, 1, below -> x.ultimate(BLEND, 0, below));
-        parts("14: BLEND 1", 765, 2, below -> x.ultimate(BLEND, 1, below));
-        parts("14: BLEND 2", 24000, 47, below -> x.ultimate(BLEND, 2, below));
-        partsFail("14: method -1", Checks.BAD, below -> x.ultimate(-1, 0, below));
-        partsFail("14: method 4", Checks.BAD, below -> x.ultimate(4, 0, below));
-        partsFail("14: row -1", Checks.BAD, below -> x.ultimate(ALL, -1, below));
-        partsFail("14: row 3", Checks.BAD, below -> x.ultimate(ALL, 3, below));
+        Checks.parts("14: LATEST 2", 576, 1, below -> x.ultimate(LATEST, 2, below));
+        Checks.parts("14: EXPECTED 0", 900, 1, below -> x.ultimate(EXPECTED, 0, below));
+        Checks.parts("14: EXPECTED 1", 375, 1, below -> x.ultimate(EXPECTED, 1, below));
+        Checks.parts("14: EXPECTED 2", 450, 1, below -> x.ultimate(EXPECTED, 2, below));
+        Checks.parts("14: BLEND 0", 180, 1, below -> x.ultimate(BLEND, 0, below));
+        Checks.parts("14: BLEND 1", 765, 2, below -> x.ultimate(BLEND, 1, below));
+        Checks.parts("14: BLEND 2", 24000, 47, below -> x.ultimate(BLEND, 2, below));
+        Checks.partsFail("14: method -1", Checks.BAD, below -> x.ultimate(-1, 0, below));
+        Checks.partsFail("14: method 4", Checks.BAD, below -> x.ultimate(4, 0, below));
+        Checks.partsFail("14: row -1", Checks.BAD, below -> x.ultimate(ALL, -1, below));
+        Checks.partsFail("14: row 3", Checks.BAD, below -> x.ultimate(ALL, 3, below));
         x.ratio(-1, 5, 3);
-        parts("14: with a tail", 640, 1, below -> x.ultimate(ALL, 1, below));
-        parts("14: BLEND with a tail", 1015, 2, below -> x.ultimate(BLEND, 1, below));
+        Checks.parts("14: with a tail", 640, 1, below -> x.ultimate(ALL, 1, below));
+        Checks.parts("14: BLEND with a tail", 1015, 2, below -> x.ultimate(BLEND, 1, below));
         x.pay(0, 0, 30, -360);
-        parts("14: a way under 0", -640, 1, below -> x.ultimate(ALL, 1, below));
-        parts("14: BLEND with a way under 0", 1765, 2, below -> x.ultimate(BLEND, 1, below));
+        Checks.parts("14: a way under 0", -640, 1, below -> x.ultimate(ALL, 1, below));
+        Checks.parts("14: BLEND with a way under 0", 1765, 2, below -> x.ultimate(BLEND, 1, below));
         x.pay(0, 0, 30, 360);
         x.ratio(-1, 0, 1);
-        parts("14: a tail of 0", 0, 1, below -> x.ultimate(ALL, 2, below));
-        partsFail("14: BLEND with a way of 0", Checks.UNDEFINED, below -> x.ultimate(BLEND, 0, below));
-        parts("14: EXPECTED has no way", 900, 1, below -> x.ultimate(EXPECTED, 0, below));
+        Checks.parts("14: a tail of 0", 0, 1, below -> x.ultimate(ALL, 2, below));
+        Checks.partsFail("14: BLEND with a way of 0", Checks.UNDEFINED, below -> x.ultimate(BLEND, 0, below));
+        Checks.parts("14: EXPECTED has no way", 900, 1, below -> x.ultimate(EXPECTED, 0, below));
         x.leave(0, 1, true);
         x.ratio(-1, 1, 1);
-        partsFail("14: undefined factor", Checks.UNDEFINED, below -> x.ultimate(ALL, 1, below));
-        partsFail("14: LATEST's", Checks.UNDEFINED, below -> x.ultimate(LATEST, 2, below));
-        partsFail("14: BLEND's", Checks.UNDEFINED, below -> x.ultimate(BLEND, 1, below));
-        parts("14: row 0 needs none", 180, 1, below -> x.ultimate(ALL, 0, below));
+        Checks.partsFail("14: undefined factor", Checks.UNDEFINED, below -> x.ultimate(ALL, 1, below));
+        Checks.partsFail("14: LATEST's", Checks.UNDEFINED, below -> x.ultimate(LATEST, 2, below));
+        Checks.partsFail("14: BLEND's", Checks.UNDEFINED, below -> x.ultimate(BLEND, 1, below));
+        Checks.parts("14: row 0 needs none", 180, 1, below -> x.ultimate(ALL, 0, below));
     }
 
     private static void reserve() {
-        ClaimTriangle x = insuredYears();
-        parts("15: ALL 0", 0, 1, below -> x.reserve(ALL, 0, below));
-        parts("15: ALL 1", 64, 1, below -> x.reserve(ALL, 1, below));
-        parts("15: ALL 2", 264, 1, below -> x.reserve(ALL, 2, below));
-        parts("15: EXPECTED 0", 720, 1, below -> x.reserve(EXPECTED, 0, below));
-        parts("15: BLEND 1", 125, 2, below -> x.reserve(BLEND, 1, below));
-        parts("15: BLEND 2", 9900, 47, below -> x.reserve(BLEND, 2, below));
+        ClaimTriangle x = Samples.insuredYears();
+        Checks.parts("15: ALL 0", 0, 1, below -> x.reserve(ALL, 0, below));
+        Checks.parts("15: ALL 1", 64, 1, below -> x.reserve(ALL, 1, below));
+        Checks.parts("15: ALL 2", 264, 1, below -> x.reserve(ALL, 2, below));
+        Checks.parts("15: EXPECTED 0", 720, 1, below -> x.reserve(EXPECTED, 0, below));
+        Checks.parts("15: BLEND 1", 125, 2, below -> x.reserve(BLEND, 1, below));
+        Checks.parts("15: BLEND 2", 9900, 47, below -> x.reserve(BLEND, 2, below));
         x.ratio(-1, 1, 7);
-        parts("15: under 0", -1080, 7, below -> x.reserve(LATEST, 0, below));
-        partsFail("15: method -1", Checks.BAD, below -> x.reserve(-1, 0, below));
-        partsFail("15: method 4", Checks.BAD, below -> x.reserve(4, 0, below));
-        partsFail("15: row -1", Checks.BAD, below -> x.reserve(ALL, -1, below));
-        partsFail("15: row 3", Checks.BAD, below -> x.reserve(ALL, 3, below));
+        Checks.parts("15: under 0", -1080, 7, below -> x.reserve(LATEST, 0, below));
+        Checks.partsFail("15: method -1", Checks.BAD, below -> x.reserve(-1, 0, below));
+        Checks.partsFail("15: method 4", Checks.BAD, below -> x.reserve(4, 0, below));
+        Checks.partsFail("15: row -1", Checks.BAD, below -> x.reserve(ALL, -1, below));
+        Checks.partsFail("15: row 3", Checks.BAD, below -> x.reserve(ALL, 3, below));
         x.leave(0, 2, true);
-        partsFail("15: undefined", Checks.UNDEFINED, below -> x.reserve(ALL, 1, below));
+        Checks.partsFail("15: undefined", Checks.UNDEFINED, below -> x.reserve(ALL, 1, below));
     }
 
     private static void rounded() {
-        Checks.answers("16: a half goes up", 63, () -> insuredYears().rounded(BLEND, 1));
-        Checks.answers("16: 210 and 30 / 47", 211, () -> insuredYears().rounded(BLEND, 2));
-        Checks.answers("16: whole", 264, () -> insuredYears().rounded(ALL, 2));
-        Checks.answers("16: -5 / 2", -2, () -> tailed(5, 1, 2).rounded(ALL, 0));
-        Checks.answers("16: 5 / 2", 3, () -> tailed(-5, 1, 2).rounded(ALL, 0));
-        Checks.answers("16: -7 / 3", -2, () -> tailed(7, 2, 3).rounded(LATEST, 0));
-        Checks.answers("16: -8 / 3", -3, () -> tailed(8, 2, 3).rounded(ALL, 0));
-        Checks.answers("16: 7 / 3", 2, () -> tailed(7, 4, 3).rounded(ALL, 0));
-        Checks.answers("16: -1 / 2", 0, () -> tailed(1, 1, 2).rounded(ALL, 0));
-        Checks.fails("16: method 4", Checks.BAD, () -> years().rounded(4, 0));
-        Checks.fails("16: method -1", Checks.BAD, () -> years().rounded(-1, 0));
-        Checks.fails("16: row 3", Checks.BAD, () -> years().rounded(0, 3));
-        Checks.fails("16: row -1", Checks.BAD, () -> years().rounded(0, -1));
-        Checks.fails("16: undefined", Checks.UNDEFINED, () -> tailed(1, 0, 1).rounded(BLEND, 0));
+        Checks.answers("16: a half goes up", 63, () -> Samples.insuredYears().rounded(BLEND, 1));
+        Checks.answers("16: 210 and 30 / 47", 211, () -> Samples.insuredYears().rounded(BLEND, 2));
+        Checks.answers("16: whole", 264, () -> Samples.insuredYears().rounded(ALL, 2));
+        Checks.answers("16: -5 / 2", -2, () -> Samples.tailed(5, 1, 2).rounded(ALL, 0));
+        Checks.answers("16: 5 / 2", 3, () -> Samples.tailed(-5, 1, 2).rounded(ALL, 0));
+        Checks.answers("16: -7 / 3", -2, () -> Samples.tailed(7, 2, 3).rounded(LATEST, 0));
+        Checks.answers("16: -8 / 3", -3, () -> Samples.tailed(8, 2, 3).rounded(ALL, 0));
+        Checks.answers("16: 7 / 3", 2, () -> Samples.tailed(7, 4, 3).rounded(ALL, 0));
+        Checks.answers("16: -1 / 2", 0, () -> Samples.tailed(1, 1, 2).rounded(ALL, 0));
+        Checks.fails("16: method 4", Checks.BAD, () -> Samples.years().rounded(4, 0));
+        Checks.fails("16: method -1", Checks.BAD, () -> Samples.years().rounded(-1, 0));
+        Checks.fails("16: row 3", Checks.BAD, () -> Samples.years().rounded(0, 3));
+        Checks.fails("16: row -1", Checks.BAD, () -> Samples.years().rounded(0, -1));
+        Checks.fails("16: undefined", Checks.UNDEFINED, () -> Samples.tailed(1, 0, 1).rounded(BLEND, 0));
         int[] tops = {8192, 8192, 8192, 8192, 1024};
-        Checks.answers("16: a long one", LIMIT - 1, () -> steep(tops, ONES, 1).rounded(ALL, 5));
-        Checks.fails("16: too long", Checks.LONG, () -> steep(tops, ONES, 2).rounded(ALL, 5));
-    }
-
-    /** One cell, with a tail. */
-    private static ClaimTriangle tailed(int amount, int above, int below) {
-        ClaimTriangle x = new ClaimTriangle();
-        x.pay(0, 0, 0, amount);
-        x.ratio(-1, above, below);
-        return x;
+        Checks.answers("16: a long one", LIMIT - 1, () -> Samples.steep(tops, Samples.ONES, 1).rounded(ALL, 5));
+        Checks.fails("16: too long", Checks.LONG, () -> Samples.steep(tops, Samples.ONES, 2).rounded(ALL, 5));
     }
 
     private static void total() {
-        ClaimTriangle x = insuredYears();
-        parts("17: ALL", 328, 1, below -> x.total(ALL, below));
+        ClaimTriangle x = Samples.insuredYears();
+        Checks.parts("17: ALL", 328, 1, below -> x.total(ALL, below));
         x.latest(1);
-        parts("17: LATEST", 340, 1, below -> x.total(LATEST, below));
-        parts("17: EXPECTED", 925, 1, below -> x.total(EXPECTED, below));
-        parts("17: BLEND", 25675, 94, below -> x.total(BLEND, below));
-        partsFail("17: method -1", Checks.BAD, below -> x.total(-1, below));
-        partsFail("17: method 4", Checks.BAD, below -> x.total(4, below));
+        Checks.parts("17: LATEST", 340, 1, below -> x.total(LATEST, below));
+        Checks.parts("17: EXPECTED", 925, 1, below -> x.total(EXPECTED, below));
+        Checks.parts("17: BLEND", 25675, 94, below -> x.total(BLEND, below));
+        Checks.partsFail("17: method -1", Checks.BAD, below -> x.total(-1, below));
+        Checks.partsFail("17: method 4", Checks.BAD, below -> x.total(4, below));
         x.leave(1, 0, true);
         x.leave(0, 0, true);
-        partsFail("17: undefined", Checks.UNDEFINED, below -> x.total(ALL, below));
-        parts("17: not EXPECTED", 925, 1, below -> x.total(EXPECTED, below));
+        Checks.partsFail("17: undefined", Checks.UNDEFINED, below -> x.total(ALL, below));
+        Checks.parts("17: not EXPECTED", 925, 1, below -> x.total(EXPECTED, below));
     }
 
     private static void marks() {
-        ClaimTriangle x = insuredYears();
+        ClaimTriangle x = Samples.insuredYears();
         Checks.answers("18: none", 0, () -> x.marks(ALL));
         x.leave(0, 1, true);
         Checks.answers("18: two of ALL", 2, () -> x.marks(ALL));
@@ -562,7 +482,7 @@ public final class PromiseTest {
         Checks.fails("18: method -1", Checks.BAD, () -> x.marks(-1));
         Checks.fails("18: method 4", Checks.BAD, () -> x.marks(4));
         int[] tops = {8192, 8192, 8192, 8192, 8192};
-        ClaimTriangle y = steep(tops, ONES, 1);
+        ClaimTriangle y = Samples.steep(tops, Samples.ONES, 1);
         Checks.answers("18: two too long", 20, () -> y.marks(ALL));
         Checks.answers("18: LATEST's too", 20, () -> y.marks(LATEST));
         y.leave(4, 0, true);
@@ -570,22 +490,22 @@ public final class PromiseTest {
     }
 
     private static void deviation() {
-        ClaimTriangle x = years();
-        parts("19: of factor 0", 2, 3, below -> x.deviation(0, below));
-        partsFail("19: one row", Checks.UNDEFINED, below -> x.deviation(1, below));
-        partsFail("19: factor 2", Checks.BAD, below -> x.deviation(2, below));
-        partsFail("19: factor -1", Checks.BAD, below -> x.deviation(-1, below));
+        ClaimTriangle x = Samples.years();
+        Checks.parts("19: of factor 0", 2, 3, below -> x.deviation(0, below));
+        Checks.partsFail("19: one row", Checks.UNDEFINED, below -> x.deviation(1, below));
+        Checks.partsFail("19: factor 2", Checks.BAD, below -> x.deviation(2, below));
+        Checks.partsFail("19: factor -1", Checks.BAD, below -> x.deviation(-1, below));
         x.latest(1);
-        parts("19: of ALL whatever LATEST is", 2, 3, below -> x.deviation(0, below));
+        Checks.parts("19: of ALL whatever LATEST is", 2, 3, below -> x.deviation(0, below));
         x.leave(0, 0, true);
-        partsFail("19: one row that is not left out", Checks.UNDEFINED, below -> x.deviation(0, below));
+        Checks.partsFail("19: one row that is not left out", Checks.UNDEFINED, below -> x.deviation(0, below));
         x.leave(1, 0, true);
-        partsFail("19: no row", Checks.UNDEFINED, below -> x.deviation(0, below));
+        Checks.partsFail("19: no row", Checks.UNDEFINED, below -> x.deviation(0, below));
         x.build(0, 12, false, 3);
         x.pay(0, 0, 0, -100);
-        partsFail("19: a cell of 0", Checks.UNDEFINED, below -> x.deviation(0, below));
+        Checks.partsFail("19: a cell of 0", Checks.UNDEFINED, below -> x.deviation(0, below));
         x.pay(0, 0, 0, -200);
-        partsFail("19: cells whose sum is 0", Checks.UNDEFINED, below -> x.deviation(0, below));
+        Checks.partsFail("19: cells whose sum is 0", Checks.UNDEFINED, below -> x.deviation(0, below));
         threeRowsOfDeviation();
         longDeviation();
     }
@@ -600,38 +520,38 @@ public final class PromiseTest {
         x.pay(0, 1, 2, 2);
         x.pay(0, 2, 2, -1);
         x.pay(0, 2, 3, 2);
-        parts("19: by one less than there are rows", -12, 1, below -> x.deviation(0, below));
+        Checks.parts("19: by one less than there are rows", -12, 1, below -> x.deviation(0, below));
         x.hide(1);
-        parts("19: of what is not hidden", 1, 2, below -> x.deviation(0, below));
+        Checks.parts("19: of what is not hidden", 1, 2, below -> x.deviation(0, below));
     }
 
     private static void longDeviation() {
         ClaimTriangle x = new ClaimTriangle();
         x.build(0, 1, false, 3);
-        payMuch(x, 0, 0, 99991);
-        payMuch(x, 0, 1, 99989);
-        payMuch(x, 1, 1, 1);
-        payMuch(x, 1, 2, 99971);
-        partsFail("19: too long", Checks.LONG, below -> x.deviation(0, below));
+        Samples.payMuch(x, 0, 0, 99991);
+        Samples.payMuch(x, 0, 1, 99989);
+        Samples.payMuch(x, 1, 1, 1);
+        Samples.payMuch(x, 1, 2, 99971);
+        Checks.partsFail("19: too long", Checks.LONG, below -> x.deviation(0, below));
     }
 
     private static void error() {
-        ClaimTriangle x = years();
-        parts("20: nothing is hidden", 0, 1, below -> x.error(ALL, 0, below));
-        parts("20: nor in the last row", 0, 1, below -> x.error(LATEST, 2, below));
+        ClaimTriangle x = Samples.years();
+        Checks.parts("20: nothing is hidden", 0, 1, below -> x.error(ALL, 0, below));
+        Checks.parts("20: nor in the last row", 0, 1, below -> x.error(LATEST, 2, below));
         x.hide(1);
         x.ratio(-1, 5, 1);
-        parts("20: 200 times 3 / 2 less 320", -20, 1, below -> x.error(ALL, 1, below));
-        partsFail("20: row 0", Checks.BAD, below -> x.error(ALL, 0, below));
-        partsFail("20: row 2", Checks.BAD, below -> x.error(ALL, 2, below));
-        partsFail("20: EXPECTED", Checks.BAD, below -> x.error(EXPECTED, 1, below));
-        partsFail("20: BLEND", Checks.BAD, below -> x.error(BLEND, 1, below));
-        partsFail("20: method -1", Checks.BAD, below -> x.error(-1, 1, below));
+        Checks.parts("20: 200 times 3 / 2 less 320", -20, 1, below -> x.error(ALL, 1, below));
+        Checks.partsFail("20: row 0", Checks.BAD, below -> x.error(ALL, 0, below));
+        Checks.partsFail("20: row 2", Checks.BAD, below -> x.error(ALL, 2, below));
+        Checks.partsFail("20: EXPECTED", Checks.BAD, below -> x.error(EXPECTED, 1, below));
+        Checks.partsFail("20: BLEND", Checks.BAD, below -> x.error(BLEND, 1, below));
+        Checks.partsFail("20: method -1", Checks.BAD, below -> x.error(-1, 1, below));
         x.leave(0, 1, true);
-        partsFail("20: undefined", Checks.UNDEFINED, below -> x.error(LATEST, 1, below));
+        Checks.partsFail("20: undefined", Checks.UNDEFINED, below -> x.error(LATEST, 1, below));
         x.hide(2);
-        partsFail("20: no row has one", Checks.BAD, below -> x.error(ALL, 0, below));
-        partsFail("20: nor row 2", Checks.BAD, below -> x.error(ALL, 2, below));
+        Checks.partsFail("20: no row has one", Checks.BAD, below -> x.error(ALL, 0, below));
+        Checks.partsFail("20: nor row 2", Checks.BAD, below -> x.error(ALL, 2, below));
         errorOverTwoFactors();
     }
 
@@ -646,16 +566,16 @@ public final class PromiseTest {
             }
         }
         x.hide(2);
-        parts("20: 10 times 11 / 6 times 5 / 3 less 20", 95, 9, below -> x.error(ALL, 2, below));
+        Checks.parts("20: 10 times 11 / 6 times 5 / 3 less 20", 95, 9, below -> x.error(ALL, 2, below));
         x.latest(1);
-        parts("20: 10 times 2 times 5 / 3 less 20", 40, 3, below -> x.error(LATEST, 2, below));
+        Checks.parts("20: 10 times 2 times 5 / 3 less 20", 40, 3, below -> x.error(LATEST, 2, below));
         x.hide(1);
-        parts("20: 9 times 9 / 5 less 10", 31, 5, below -> x.error(ALL, 1, below));
-        partsFail("20: row 4 is hidden", Checks.BAD, below -> x.error(ALL, 4, below));
+        Checks.parts("20: 9 times 9 / 5 less 10", 31, 5, below -> x.error(ALL, 1, below));
+        Checks.partsFail("20: row 4 is hidden", Checks.BAD, below -> x.error(ALL, 4, below));
     }
 
     private static void diagonal() {
-        ClaimTriangle x = years();
+        ClaimTriangle x = Samples.years();
         Checks.answers("21: 0", 100, () -> x.diagonal(0));
         Checks.answers("21: 1", 250, () -> x.diagonal(1));
         Checks.answers("21: 2", 450, () -> x.diagonal(2));
@@ -673,7 +593,7 @@ public final class PromiseTest {
     }
 
     private static void count() {
-        ClaimTriangle x = years();
+        ClaimTriangle x = Samples.years();
         x.estimate(0, 0, 0, 500);
         x.pay(1, 0, 0, 11);
         x.pay(0, 71, 71, 1000);
@@ -693,84 +613,73 @@ public final class PromiseTest {
 
     private static void partsAtTheLimit() {
         int[] limit = {8192, 8192, 8192, 8192, 1024};
-        parts("a part above of 2^62", LIMIT, 1, below -> steep(limit, ONES, 1).ultimate(ALL, 5, below));
-        parts("a part above of -2^62", -LIMIT, 1, below -> steep(limit, ONES, -1).ultimate(ALL, 5, below));
-        parts("a part below of 2^62", 1, LIMIT, below -> steep(ONES, limit, 1).ultimate(ALL, 5, below));
-        parts("one that is shortened first", 1, LIMIT / 2, below -> steep(ONES, limit, 2).ultimate(ALL, 5, below));
+        Checks.parts("a part above of 2^62", LIMIT, 1, below -> Samples.steep(limit, Samples.ONES, 1).ultimate(ALL, 5, below));
+        Checks.parts("a part above of -2^62", -LIMIT, 1, below -> Samples.steep(limit, Samples.ONES, -1).ultimate(ALL, 5, below));
+        Checks.parts("a part below of 2^62", 1, LIMIT, below -> Samples.steep(Samples.ONES, limit, 1).ultimate(ALL, 5, below));
+        Checks.parts("one that is shortened first", 1, LIMIT / 2, below -> Samples.steep(Samples.ONES, limit, 2).ultimate(ALL, 5, below));
         int[] over = {8192, 8192, 8192, 8192, 1025};
-        partsFail("a part below beyond", Checks.LONG, below -> steep(ONES, over, 1).ultimate(ALL, 5, below));
+        Checks.partsFail("a part below beyond", Checks.LONG, below -> Samples.steep(Samples.ONES, over, 1).ultimate(ALL, 5, below));
         int[] one = {5, 5581, 8681, 49477, 384773};
-        partsFail("2^62 + 1 above", Checks.LONG, below -> steep(one, ONES, 1).ultimate(ALL, 5, below));
-        partsFail("-2^62 - 1 above", Checks.LONG, below -> steep(one, ONES, -1).ultimate(LATEST, 5, below));
+        Checks.partsFail("2^62 + 1 above", Checks.LONG, below -> Samples.steep(one, Samples.ONES, 1).ultimate(ALL, 5, below));
+        Checks.partsFail("-2^62 - 1 above", Checks.LONG, below -> Samples.steep(one, Samples.ONES, -1).ultimate(LATEST, 5, below));
         int[] nearby = {1, 1, 1, 39478, 374774};
-        partsFail("2^62 + 1 below", Checks.LONG, below -> steep(nearby, one, 1).ultimate(ALL, 5, below));
-        partsFail("2^64 above, that wraps to 0", Checks.LONG,
-                below -> steep(new int[] {8192, 8192, 8192, 8192, 4096}, ONES, 1).ultimate(ALL, 5, below));
-        partsFail("too long though the cell is 0", Checks.LONG,
-                below -> steep(one, ONES, 0).ultimate(ALL, 5, below));
+        Checks.partsFail("2^62 + 1 below", Checks.LONG, below -> Samples.steep(nearby, one, 1).ultimate(ALL, 5, below));
+        Checks.partsFail("2^64 above, that wraps to 0", Checks.LONG,
+                below -> Samples.steep(new int[] {8192, 8192, 8192, 8192, 4096}, Samples.ONES, 1).ultimate(ALL, 5, below));
+        Checks.partsFail("too long though the cell is 0", Checks.LONG,
+                below -> Samples.steep(one, Samples.ONES, 0).ultimate(ALL, 5, below));
     }
 
     private static void sumsAtTheLimit() {
         int[] tops = {8192, 8192, 8192, 8192, -1024};
-        parts("a part above of 2^62 by a way under 0", LIMIT, 1, below -> steep(tops, ONES, -1).ultimate(ALL, 5, below));
-        partsFail("2^62 and 1", Checks.LONG, below -> steep(tops, ONES, -1).reserve(ALL, 5, below));
-        partsFail("-2^62 and -1", Checks.LONG, below -> steep(tops, ONES, 1).reserve(ALL, 5, below));
+        Checks.parts("a part above of 2^62 by a way under 0", LIMIT, 1, below -> Samples.steep(tops, Samples.ONES, -1).ultimate(ALL, 5, below));
+        Checks.partsFail("2^62 and 1", Checks.LONG, below -> Samples.steep(tops, Samples.ONES, -1).reserve(ALL, 5, below));
+        Checks.partsFail("-2^62 and -1", Checks.LONG, below -> Samples.steep(tops, Samples.ONES, 1).reserve(ALL, 5, below));
         int[] plain = {8192, 8192, 8192, 8192, 1024};
-        parts("2^62 and -1", LIMIT - 1, 1, below -> steep(plain, ONES, 1).reserve(ALL, 5, below));
-        parts("-2^62 and 1", 1 - LIMIT, 1, below -> steep(plain, ONES, -1).reserve(ALL, 5, below));
-        partsFail("a total of twice as much", Checks.LONG, below -> steep(plain, ONES, 1).total(ALL, below));
+        Checks.parts("2^62 and -1", LIMIT - 1, 1, below -> Samples.steep(plain, Samples.ONES, 1).reserve(ALL, 5, below));
+        Checks.parts("-2^62 and 1", 1 - LIMIT, 1, below -> Samples.steep(plain, Samples.ONES, -1).reserve(ALL, 5, below));
+        Checks.partsFail("a total of twice as much", Checks.LONG, below -> Samples.steep(plain, Samples.ONES, 1).total(ALL, below));
     }
 
     private static void sumsTooLongInEveryPart() {
         int[] steps = {8192, 8192, 8192, 8192, 1024};
-        parts("one that just goes", 1 - LIMIT, LIMIT, below -> steep(ONES, steps, 1).reserve(ALL, 5, below));
-        partsFail("the second part above over the multiple", Checks.LONG,
-                below -> steep(ONES, steps, 3).reserve(ALL, 5, below));
-        ClaimTriangle x = steep(new int[] {1, 8192, 8192, 8192, 8192}, new int[] {9999, 1, 1, 1, 1}, 1);
+        Checks.parts("one that just goes", 1 - LIMIT, LIMIT, below -> Samples.steep(Samples.ONES, steps, 1).reserve(ALL, 5, below));
+        Checks.partsFail("the second part above over the multiple", Checks.LONG,
+                below -> Samples.steep(Samples.ONES, steps, 3).reserve(ALL, 5, below));
+        ClaimTriangle x = Samples.steep(new int[] {1, 8192, 8192, 8192, 8192}, new int[] {9999, 1, 1, 1, 1}, 1);
         Checks.answers("each reserve goes", 0, () -> x.marks(ALL));
-        partsFail("the first part above over the multiple", Checks.LONG, below -> x.total(ALL, below));
-        parts("a sum in lowest terms", 1, 19999L * 10000 * 9999, below -> alike(10000).deviation(0, below));
-        partsFail("a multiple, though lowest terms would go", Checks.LONG,
-                below -> alike(35000).deviation(0, below));
-    }
-
-    /** Two rows that fall from c and c - 1 to 1: the parts above stay small in the deviation. */
-    private static ClaimTriangle alike(int c) {
-        ClaimTriangle x = new ClaimTriangle();
-        x.build(0, 1, false, 3);
-        payMuch(x, 0, 0, c);
-        payMuch(x, 0, 1, 1 - c);
-        payMuch(x, 1, 1, c - 1);
-        payMuch(x, 1, 2, 2 - c);
-        return x;
+        Checks.partsFail("the first part above over the multiple", Checks.LONG, below -> x.total(ALL, below));
+        Checks.parts("a sum in lowest terms", 1, 19999L * 10000 * 9999, below -> Samples.alike(10000).deviation(0, below));
+        Checks.partsFail("a multiple, though lowest terms would go", Checks.LONG,
+                below -> Samples.alike(35000).deviation(0, below));
     }
 
     private static void undefinedBeforeTooLong() {
         int[] tops = {65536, 65536, 65536, 65536, 0};
-        ClaimTriangle none = steep(tops, new int[] {1, 1, 1, 1, 0}, 1);
-        partsFail("a later factor is undefined", Checks.UNDEFINED, below -> none.ultimate(ALL, 5, below));
-        partsFail("of BLEND too", Checks.UNDEFINED, below -> none.reserve(BLEND, 5, below));
+        ClaimTriangle none = Samples.steep(tops, new int[] {1, 1, 1, 1, 0}, 1);
+        Checks.partsFail("a later factor is undefined", Checks.UNDEFINED, below -> none.ultimate(ALL, 5, below));
+        Checks.partsFail("of BLEND too", Checks.UNDEFINED, below -> none.reserve(BLEND, 5, below));
         Checks.answers("it is marked so", 5, () -> none.marks(ALL));
-        partsFail("and so is the total", Checks.UNDEFINED, below -> none.total(LATEST, below));
-        ClaimTriangle zero = steep(tops, ONES, 1);
-        partsFail("a way that is too long before it is 0", Checks.LONG, below -> zero.ultimate(ALL, 5, below));
-        partsFail("is not known to be 0", Checks.LONG, below -> zero.ultimate(BLEND, 5, below));
-        partsFail("a shorter one is", Checks.UNDEFINED, below -> zero.ultimate(BLEND, 3, below));
+        Checks.partsFail("and so is the total", Checks.UNDEFINED, below -> none.total(LATEST, below));
+        ClaimTriangle zero = Samples.steep(tops, Samples.ONES, 1);
+        Checks.partsFail("a way that is too long before it is 0", Checks.LONG, below -> zero.ultimate(ALL, 5, below));
+        Checks.partsFail("is not known to be 0", Checks.LONG, below -> zero.ultimate(BLEND, 5, below));
+        Checks.partsFail("a shorter one is", Checks.UNDEFINED, below -> zero.ultimate(BLEND, 3, below));
         Checks.answers("each is marked as it is", 14, () -> zero.marks(BLEND));
-        partsFail("the total is undefined", Checks.UNDEFINED, below -> zero.total(BLEND, below));
+        Checks.partsFail("the total is undefined", Checks.UNDEFINED, below -> zero.total(BLEND, below));
         zero.ratio(-1, 0, 1);
-        partsFail("nor by the tail", Checks.LONG, below -> zero.ultimate(BLEND, 5, below));
+        Checks.partsFail("nor by the tail", Checks.LONG, below -> zero.ultimate(BLEND, 5, below));
         Checks.answers("all others have a way of 0", 15, () -> zero.marks(BLEND));
     }
 
     private static void wrongArgumentsBeforeAll() {
         ClaimTriangle x = new ClaimTriangle();
         x.build(0, 12, false, 2);
-        partsFail("an undefined factor", Checks.UNDEFINED, below -> x.factor(ALL, 0, below));
-        partsFail("a factor that there is none of", Checks.BAD, below -> x.factor(ALL, 1, below));
-        partsFail("the greatest factor", Checks.BAD, below -> x.factor(ALL, Integer.MAX_VALUE, below));
-        partsFail("the least factor", Checks.BAD, below -> x.deviation(Integer.MIN_VALUE, below));
-        partsFail("the greatest row", Checks.BAD, below -> x.error(ALL, Integer.MAX_VALUE, below));
+        Checks.partsFail("an undefined factor", Checks.UNDEFINED, below -> x.factor(ALL, 0, below));
+        Checks.partsFail("a factor that there is none of", Checks.BAD, below -> x.factor(ALL, 1, below));
+        Checks.partsFail("the greatest factor", Checks.BAD, below -> x.factor(ALL, Integer.MAX_VALUE, below));
+        Checks.partsFail("the least factor", Checks.BAD, below -> x.deviation(Integer.MIN_VALUE, below));
+        Checks.partsFail("the greatest row", Checks.BAD, below -> x.error(ALL, Integer.MAX_VALUE, below));
         Checks.fails("the greatest diagonal", Checks.BAD, () -> x.diagonal(Integer.MAX_VALUE));
         Checks.fails("the greatest number of hidden ones", Checks.BAD, () -> x.hide(Integer.MAX_VALUE));
     }
