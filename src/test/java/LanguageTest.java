@@ -82,6 +82,7 @@ public final class LanguageTest {
             boolean bears = Modifier.isPrivate(method.getModifiers()) && names.contains(method.getName());
             Checks.same("rule 1: " + method + " bears a public name", false, bears);
         }
+        Checks.same("rule 11: classes", true, ClaimTriangle.class.getDeclaredClasses().length < 12);
         for (Class<?> inside : ClaimTriangle.class.getDeclaredClasses()) {
             int marks = inside.getModifiers();
             Checks.same("rule 1: " + inside, true, Modifier.isPrivate(marks) && Modifier.isStatic(marks));
@@ -109,6 +110,9 @@ public final class LanguageTest {
         for (String word : RULED_OUT) {
             Checks.same("a word ruled out: " + word, false, Pattern.compile(word).matcher(text).find());
         }
+        String written = "throw new (IllegalStateException|IllegalArgumentException|ArithmeticException"
+                + "|UnsupportedOperationException)\\(\"[^\"]*\"\\);";
+        Checks.same("rule 6: other throws", false, text.replaceAll(written, "").contains("throw new"));
         boolean plain = text.chars().allMatch(letter -> letter < 256);
         Checks.same("rule 3: characters 0 to 255", true, plain);
     }

@@ -335,8 +335,8 @@ final class MethodTerms {
                 below -> Samples.cells(3, row(5, 9), row(0, 0)).deviation(0, below));
         Checks.partsFail("behind rows that are too long", Checks.UNDEFINED,
                 below -> Samples.cells(4, row(-100000, 1), row(100001, 100000), row(0, 1)).deviation(0, below));
-        Checks.partsFail("in whose sum it would be too long", Checks.UNDEFINED,
-                below -> Samples.cells(4, row(100, 1), row(99, 1), row(0, 150000)).deviation(0, below));
+        Checks.partsFail("behind a sum that is too long", Checks.UNDEFINED,
+                below -> Samples.cells(4, row(1000, 1), row(999, 1), row(0, 150000)).deviation(0, below));
         Checks.parts("cells i, j + 1 may be 0", 0, 1,
                 below -> Samples.cells(3, row(5, 0), row(6, 0)).deviation(0, below));
     }

@@ -1,4 +1,4 @@
-/** The promises one by one: ordinary inputs, the document's edges, and wrong inputs. */
+/** The promises one by one, in runs of calls that build on one another. */
 public final class PromiseTest {
     private static final int ALL = Samples.ALL;
     private static final int LATEST = Samples.LATEST;
@@ -30,11 +30,6 @@ public final class PromiseTest {
         error();
         diagonal();
         count();
-        partsAtTheLimit();
-        sumsAtTheLimit();
-        sumsTooLongInEveryPart();
-        undefinedBeforeTooLong();
-        wrongArgumentsBeforeAll();
         readmeExample();
         Checks.end();
     }
@@ -609,79 +604,6 @@ public final class PromiseTest {
         Checks.answers("22: paid of the other line", 11, () -> x.count(4));
         Checks.fails("22: -1", Checks.BAD, () -> x.count(-1));
         Checks.fails("22: 5", Checks.BAD, () -> x.count(5));
-    }
-
-    private static void partsAtTheLimit() {
-        int[] limit = {8192, 8192, 8192, 8192, 1024};
-        Checks.parts("a part above of 2^62", LIMIT, 1, below -> Samples.steep(limit, Samples.ONES, 1).ultimate(ALL, 5, below));
-        Checks.parts("a part above of -2^62", -LIMIT, 1, below -> Samples.steep(limit, Samples.ONES, -1).ultimate(ALL, 5, below));
-        Checks.parts("a part below of 2^62", 1, LIMIT, below -> Samples.steep(Samples.ONES, limit, 1).ultimate(ALL, 5, below));
-        Checks.parts("one that is shortened first", 1, LIMIT / 2, below -> Samples.steep(Samples.ONES, limit, 2).ultimate(ALL, 5, below));
-        int[] over = {8192, 8192, 8192, 8192, 1025};
-        Checks.partsFail("a part below beyond", Checks.LONG, below -> Samples.steep(Samples.ONES, over, 1).ultimate(ALL, 5, below));
-        int[] one = {5, 5581, 8681, 49477, 384773};
-        Checks.partsFail("2^62 + 1 above", Checks.LONG, below -> Samples.steep(one, Samples.ONES, 1).ultimate(ALL, 5, below));
-        Checks.partsFail("-2^62 - 1 above", Checks.LONG, below -> Samples.steep(one, Samples.ONES, -1).ultimate(LATEST, 5, below));
-        int[] nearby = {1, 1, 1, 39478, 374774};
-        Checks.partsFail("2^62 + 1 below", Checks.LONG, below -> Samples.steep(nearby, one, 1).ultimate(ALL, 5, below));
-        Checks.partsFail("2^64 above, that wraps to 0", Checks.LONG,
-                below -> Samples.steep(new int[] {8192, 8192, 8192, 8192, 4096}, Samples.ONES, 1).ultimate(ALL, 5, below));
-        Checks.partsFail("too long though the cell is 0", Checks.LONG,
-                below -> Samples.steep(one, Samples.ONES, 0).ultimate(ALL, 5, below));
-    }
-
-    private static void sumsAtTheLimit() {
-        int[] tops = {8192, 8192, 8192, 8192, -1024};
-        Checks.parts("a part above of 2^62 by a way under 0", LIMIT, 1, below -> Samples.steep(tops, Samples.ONES, -1).ultimate(ALL, 5, below));
-        Checks.partsFail("2^62 and 1", Checks.LONG, below -> Samples.steep(tops, Samples.ONES, -1).reserve(ALL, 5, below));
-        Checks.partsFail("-2^62 and -1", Checks.LONG, below -> Samples.steep(tops, Samples.ONES, 1).reserve(ALL, 5, below));
-        int[] plain = {8192, 8192, 8192, 8192, 1024};
-        Checks.parts("2^62 and -1", LIMIT - 1, 1, below -> Samples.steep(plain, Samples.ONES, 1).reserve(ALL, 5, below));
-        Checks.parts("-2^62 and 1", 1 - LIMIT, 1, below -> Samples.steep(plain, Samples.ONES, -1).reserve(ALL, 5, below));
-        Checks.partsFail("a total of twice as much", Checks.LONG, below -> Samples.steep(plain, Samples.ONES, 1).total(ALL, below));
-    }
-
-    private static void sumsTooLongInEveryPart() {
-        int[] steps = {8192, 8192, 8192, 8192, 1024};
-        Checks.parts("one that just goes", 1 - LIMIT, LIMIT, below -> Samples.steep(Samples.ONES, steps, 1).reserve(ALL, 5, below));
-        Checks.partsFail("the second part above over the multiple", Checks.LONG,
-                below -> Samples.steep(Samples.ONES, steps, 3).reserve(ALL, 5, below));
-        ClaimTriangle x = Samples.steep(new int[] {1, 8192, 8192, 8192, 8192}, new int[] {9999, 1, 1, 1, 1}, 1);
-        Checks.answers("each reserve goes", 0, () -> x.marks(ALL));
-        Checks.partsFail("the first part above over the multiple", Checks.LONG, below -> x.total(ALL, below));
-        Checks.parts("a sum in lowest terms", 1, 19999L * 10000 * 9999, below -> Samples.alike(10000).deviation(0, below));
-        Checks.partsFail("a multiple, though lowest terms would go", Checks.LONG,
-                below -> Samples.alike(35000).deviation(0, below));
-    }
-
-    private static void undefinedBeforeTooLong() {
-        int[] tops = {65536, 65536, 65536, 65536, 0};
-        ClaimTriangle none = Samples.steep(tops, new int[] {1, 1, 1, 1, 0}, 1);
-        Checks.partsFail("a later factor is undefined", Checks.UNDEFINED, below -> none.ultimate(ALL, 5, below));
-        Checks.partsFail("of BLEND too", Checks.UNDEFINED, below -> none.reserve(BLEND, 5, below));
-        Checks.answers("it is marked so", 5, () -> none.marks(ALL));
-        Checks.partsFail("and so is the total", Checks.UNDEFINED, below -> none.total(LATEST, below));
-        ClaimTriangle zero = Samples.steep(tops, Samples.ONES, 1);
-        Checks.partsFail("a way that is too long before it is 0", Checks.LONG, below -> zero.ultimate(ALL, 5, below));
-        Checks.partsFail("is not known to be 0", Checks.LONG, below -> zero.ultimate(BLEND, 5, below));
-        Checks.partsFail("a shorter one is", Checks.UNDEFINED, below -> zero.ultimate(BLEND, 3, below));
-        Checks.answers("each is marked as it is", 14, () -> zero.marks(BLEND));
-        Checks.partsFail("the total is undefined", Checks.UNDEFINED, below -> zero.total(BLEND, below));
-        zero.ratio(-1, 0, 1);
-        Checks.partsFail("nor by the tail", Checks.LONG, below -> zero.ultimate(BLEND, 5, below));
-        Checks.answers("all others have a way of 0", 15, () -> zero.marks(BLEND));
-    }
-
-    private static void wrongArgumentsBeforeAll() {
-        ClaimTriangle x = new ClaimTriangle();
-        x.build(0, 12, false, 2);
-        Checks.partsFail("an undefined factor", Checks.UNDEFINED, below -> x.factor(ALL, 0, below));
-        Checks.partsFail("a factor that there is none of", Checks.BAD, below -> x.factor(ALL, 1, below));
-        Checks.partsFail("the greatest factor", Checks.BAD, below -> x.factor(ALL, Integer.MAX_VALUE, below));
-        Checks.partsFail("the least factor", Checks.BAD, below -> x.deviation(Integer.MIN_VALUE, below));
-        Checks.partsFail("the greatest row", Checks.BAD, below -> x.error(ALL, Integer.MAX_VALUE, below));
-        Checks.fails("the greatest diagonal", Checks.BAD, () -> x.diagonal(Integer.MAX_VALUE));
-        Checks.fails("the greatest number of hidden ones", Checks.BAD, () -> x.hide(Integer.MAX_VALUE));
     }
 
     private static void readmeExample() {
